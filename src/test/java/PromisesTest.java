@@ -1,3 +1,5 @@
+import java.util.function.IntSupplier;
+
 /** One method for each promise of the document: ordinary inputs, edges, and what is refused. */
 public final class PromisesTest {
     private static final int NONE = -1, BAD = -2, NO = -3, FULL = -4, BLOCK = -5;
@@ -65,11 +67,49 @@ public final class PromisesTest {
         DUE.is(call, got, want);
     }
 
-    /** A refusal changes nothing but how often: told in the digest by told(which) alone. */
-    private static void refused(String call, int got, int want, int timesAhead) {
-        due(call, got, want);
+    /** A refusal changes nothing but how often. */
+    private static void refused(String call, IntSupplier made, int want) {
         int which = want == BAD ? 0 : want == NO ? 1 : 2;
-        due(call + " counted", x.told(which), timesAhead + 1);
+        int[] times = {x.told(0), x.told(1), x.told(2)};
+        times[which]++;
+        String ahead = allThatIs();
+        due(call, made.getAsInt(), want);
+        for (int what = 0; what < 3; what++) {
+            due("told(" + what + ") behind " + call, x.told(what), times[what]);
+        }
+        DUE.holds(call + " changes nothing", allThatIs().equals(ahead));
+    }
+
+    /** All that can be told, but for how often refused. */
+    private static String allThatIs() {
+        StringBuilder all = new StringBuilder();
+        add(all, x.told(3), x.told(4), x.stuck());
+        for (int what = 0; what < 10; what++) {
+            add(all, x.works(what));
+        }
+        for (int b = 0; b < x.works(0); b++) {
+            for (int i = 0; i < 8; i++) {
+                add(all, x.buffer(b, i), x.item(b, i), x.queue(b, i), x.keeper(b, i % 3));
+            }
+        }
+        for (int s = 0; s < x.works(1); s++) {
+            for (int what = 0; what < 7; what++) {
+                add(all, x.of(s, what));
+            }
+        }
+        for (int w = 0; w < 6; w++) {
+            for (int what = 0; what < 5; what++) {
+                add(all, x.worker(w, what));
+            }
+            add(all, x.line(w));
+        }
+        return all.toString();
+    }
+
+    private static void add(StringBuilder all, int... told) {
+        for (int v : told) {
+            all.append(v).append(' ');
+        }
     }
 
     private static void bad(String call, int got) {
@@ -153,9 +193,8 @@ public final class PromisesTest {
         due("begins(6)", x.begins(6), 3);
         due("begins(1)", x.begins(1), 6);
         due("N", x.works(0), 1);
-        int n = 0;
         for (int wrong : new int[] {0, 7, -1, LOW, HIGH}) {
-            refused("begins(" + wrong + ")", x.begins(wrong), BAD, n++);
+            refused("begins(" + wrong + ")", () -> x.begins(wrong), BAD);
         }
         due("N still", x.works(0), 1);
         due("STATES", x.told(4), 2);
@@ -248,10 +287,9 @@ public final class PromisesTest {
         due("rooms serves", x.rooms(0, 3), 1);
         items(0, 2, 3, 7);
         due("WAITS", x.worker(5, 0), 0);
-        int n = 0;
         int[][] wrong = {{3, 1}, {-1, 1}, {LOW, 1}, {HIGH, 1}, {0, 0}, {0, 7}, {0, -1}, {0, LOW}, {0, HIGH}};
         for (int[] w : wrong) {
-            refused("rooms(" + w[0] + ", " + w[1] + ")", x.rooms(w[0], w[1]), BAD, n++);
+            refused("rooms(" + w[0] + ", " + w[1] + ")", () -> x.rooms(w[0], w[1]), BAD);
         }
         due("ROOM", x.buffer(0, 1), 3);
         due("STATES", x.told(4), 6);
@@ -259,13 +297,12 @@ public final class PromisesTest {
 
     private static void station() {
         anew("4 station");
-        int n = 0;
         int[][] wrong = {
             {3, 0, 0, 1, 0}, {-1, 0, 0, 1, 0}, {0, 3, 0, 1, 0}, {0, -2, 0, 1, 0}, {0, 0, 3, 1, 0}, {0, 0, -1, 1, 0},
             {0, 0, 0, 0, 0}, {0, 0, 0, 10, 0}, {0, 0, 0, 1, -1}, {0, 0, 0, 1, 10}, {HIGH, LOW, HIGH, LOW, HIGH},
         };
         for (int[] w : wrong) {
-            refused("station", x.station(w[0], w[1], w[2], w[3], w[4]), BAD, n++);
+            refused("station", () -> x.station(w[0], w[1], w[2], w[3], w[4]), BAD);
         }
         due("STATES", x.told(4), 0);
         due("station", x.station(2, NONE, 0, 9, 9), 0);
@@ -275,8 +312,8 @@ public final class PromisesTest {
             due("station", x.station(0, 1, 2, 1, 0), s);
         }
         due("STATIONS", x.works(1), 6);
-        refused("the seventh", x.station(0, 1, 2, 1, 0), FULL, 0);
-        refused("BAD is ahead of FULL", x.station(0, 1, 3, 1, 0), BAD, n++);
+        refused("the seventh", () -> x.station(0, 1, 2, 1, 0), FULL);
+        refused("BAD is ahead of FULL", () -> x.station(0, 1, 3, 1, 0), BAD);
         due("STATIONS", x.works(1), 6);
         due("GUARD", x.of(5, 6), NONE);
         due("back()", x.back(), 5);
@@ -298,10 +335,9 @@ public final class PromisesTest {
         due("guards(0, NONE)", x.guards(0, NONE), 0);
         x.ticks(1);
         due("UNGUARDED", x.works(3), 1);
-        int n = 0;
         int[][] wrong = {{1, 0}, {-1, 0}, {6, 0}, {HIGH, 0}, {LOW, 0}, {0, 3}, {0, -2}, {0, HIGH}, {0, LOW}};
         for (int[] w : wrong) {
-            refused("guards(" + w[0] + ", " + w[1] + ")", x.guards(w[0], w[1]), BAD, n++);
+            refused("guards(" + w[0] + ", " + w[1] + ")", () -> x.guards(w[0], w[1]), BAD);
         }
         due("back()", x.back(), 5);
         due("back()", x.back(), 4);
@@ -337,9 +373,8 @@ public final class PromisesTest {
         due("ticks(30)", x.ticks(30), 1);
         due("TICKS", x.works(2), 34);
         due("STARVED", x.of(0, 5), 1 + 29);
-        int n = 0;
         for (int wrong : new int[] {0, 31, -1, LOW, HIGH}) {
-            refused("ticks(" + wrong + ")", x.ticks(wrong), BAD, n++);
+            refused("ticks(" + wrong + ")", () -> x.ticks(wrong), BAD);
         }
         due("TICKS", x.works(2), 34);
         x.keeps(0, 0);
@@ -480,10 +515,9 @@ public final class PromisesTest {
         gate(2, 3, 1, 1);
         due("INS", x.buffer(2, 2), 2);
         due("PEAK", x.buffer(2, 4), 2);
-        int n = 0;
         int[][] wrong = {{3, 0}, {-1, 0}, {LOW, 0}, {HIGH, 0}, {0, 10}, {0, -1}, {0, LOW}, {0, HIGH}};
         for (int[] w : wrong) {
-            refused("puts(" + w[0] + ", " + w[1] + ")", x.puts(w[0], w[1]), BAD, n++);
+            refused("puts(" + w[0] + ", " + w[1] + ")", () -> x.puts(w[0], w[1]), BAD);
         }
         gate(0, 0, 0, 0);
         due("STATES", x.told(4), 3);
@@ -517,9 +551,8 @@ public final class PromisesTest {
         gate(0, 1, 1, 1);
         due("back()", x.back(), 5);
         gate(0, 0, 0, 0);
-        int n = 0;
         for (int wrong : new int[] {3, -1, LOW, HIGH}) {
-            refused("takes(" + wrong + ")", x.takes(wrong), BAD, n++);
+            refused("takes(" + wrong + ")", () -> x.takes(wrong), BAD);
         }
         x.rooms(1, 1);
         x.asks(0, 1, 0, 4);
@@ -566,7 +599,6 @@ public final class PromisesTest {
         x.puts(0, 7);
         due("that ITEM is the first again", x.moves(0, 2, 1, 0), -100);
         items(0, 3, 4, 5, 6, 7);
-        int n = 0;
         int[][] wrong = {
             {0, 0, 1, 0}, {3, 0, 1, 0}, {0, 3, 1, 0}, {-1, 0, 1, 0}, {0, -1, 1, 0}, {0, 1, 0, 0}, {0, 1, 10, 0},
             {0, 1, 1, 2}, {0, 1, 1, -1}, {LOW, HIGH, LOW, HIGH}, {5, 5, 1, 0},
@@ -574,7 +606,7 @@ public final class PromisesTest {
         int states = x.told(4);
         long entries = x.works(8);
         for (int[] w : wrong) {
-            refused("moves", x.moves(w[0], w[1], w[2], w[3]), BAD, n++);
+            refused("moves", () -> x.moves(w[0], w[1], w[2], w[3]), BAD);
         }
         due("STATES", x.told(4), states);
         due("ENTRIES", x.works(8), entries);
@@ -676,15 +708,14 @@ public final class PromisesTest {
         due("WAITS", x.worker(5, 0), 1);
         due("k counts for nothing", x.worker(5, 3), NONE);
         due("it is tried, then served", x.buffer(1, 6), 2);
-        refused("it WAITS", x.asks(5, 0, 0, 1), NO, 0);
+        refused("it WAITS", () -> x.asks(5, 0, 0, 1), NO);
         items(0);
-        int n = 0;
         int[][] wrong = {
             {6, 0, 0, 0}, {-1, 0, 0, 0}, {0, 3, 0, 0}, {0, -1, 0, 0}, {0, 0, 2, 0}, {0, 0, -1, 0}, {0, 0, 0, 10},
             {0, 0, 0, -1}, {0, 0, 1, 10}, {0, 0, 1, -1}, {HIGH, LOW, HIGH, LOW}, {5, 0, 0, 10},
         };
         for (int[] w : wrong) {
-            refused("asks", x.asks(w[0], w[1], w[2], w[3]), BAD, n++);
+            refused("asks", () -> x.asks(w[0], w[1], w[2], w[3]), BAD);
         }
         due("NO once", x.told(1), 1);
         due("STATES", x.told(4), 3);
@@ -792,11 +823,10 @@ public final class PromisesTest {
         }
         due("no SERVING", x.works(8), entries);
         due("STATES", x.told(4), 4);
-        refused("it does not", x.cancels(1), NO, 0);
-        refused("nor does that", x.cancels(0), NO, 1);
-        int n = 0;
+        refused("it does not", () -> x.cancels(1), NO);
+        refused("nor does that", () -> x.cancels(0), NO);
         for (int wrong : new int[] {6, -1, LOW, HIGH}) {
-            refused("cancels(" + wrong + ")", x.cancels(wrong), BAD, n++);
+            refused("cancels(" + wrong + ")", () -> x.cancels(wrong), BAD);
         }
         due("cancels(3)", x.cancels(3), 1);
         due("cancels(2)", x.cancels(2), 0);
@@ -823,13 +853,12 @@ public final class PromisesTest {
         due("keeps(0, 1)", x.keeps(0, 1), BLOCK);
         due("queue(1, 0)", x.queue(1, 0), 5);
         due("queue(1, 1)", x.queue(1, 1), 0);
-        refused("in a QUEUE", x.keeps(5, 1), NO, 0);
-        refused("in a QUEUE of another", x.keeps(5, 2), NO, 1);
+        refused("in a QUEUE", () -> x.keeps(5, 1), NO);
+        refused("in a QUEUE of another", () -> x.keeps(5, 2), NO);
         gate(2, 0, 0, 0);
-        int n = 0;
         int[][] wrong = {{6, 0}, {-1, 0}, {LOW, 0}, {HIGH, 0}, {0, 3}, {0, -1}, {5, 3}, {0, LOW}, {0, HIGH}};
         for (int[] w : wrong) {
-            refused("keeps(" + w[0] + ", " + w[1] + ")", x.keeps(w[0], w[1]), BAD, n++);
+            refused("keeps(" + w[0] + ", " + w[1] + ")", () -> x.keeps(w[0], w[1]), BAD);
         }
         due("STATES", x.told(4), 5);
         x.asks(3, 2, 1, 0);
@@ -855,14 +884,13 @@ public final class PromisesTest {
         due("KEPT", x.keeper(2, 1), 1);
         due("QUEUE", x.keeper(2, 2), 1);
         due("queue(2, 0)", x.queue(2, 0), 1);
-        refused("not its KEEPER", x.lets(0, 2), NO, 0);
-        refused("nor he in the QUEUE", x.lets(1, 2), NO, 1);
-        refused("none is", x.lets(0, 0), NO, 2);
+        refused("not its KEEPER", () -> x.lets(0, 2), NO);
+        refused("nor he in the QUEUE", () -> x.lets(1, 2), NO);
+        refused("none is", () -> x.lets(0, 0), NO);
         gate(2, 6, 0, 1);
-        int n = 0;
         int[][] wrong = {{6, 2}, {-1, 2}, {-1, 0}, {LOW, 2}, {HIGH, 2}, {3, 3}, {3, -1}, {3, LOW}, {3, HIGH}};
         for (int[] w : wrong) {
-            refused("lets(" + w[0] + ", " + w[1] + ")", x.lets(w[0], w[1]), BAD, n++);
+            refused("lets(" + w[0] + ", " + w[1] + ")", () -> x.lets(w[0], w[1]), BAD);
         }
         due("lets(3, 2)", x.lets(3, 2), 0);
         due("lets(1, 2)", x.lets(1, 2), 0);
@@ -907,11 +935,10 @@ public final class PromisesTest {
         due("queue(1, 2)", x.queue(1, 2), NONE);
         due("no GATE", x.works(8), entries);
         due("STATES", x.told(4), 5);
-        refused("in none", x.quits(3), NO, 0);
-        refused("a KEEPER is in none", x.quits(0), NO, 1);
-        int n = 0;
+        refused("in none", () -> x.quits(3), NO);
+        refused("a KEEPER is in none", () -> x.quits(0), NO);
         for (int wrong : new int[] {6, -1, LOW, HIGH}) {
-            refused("quits(" + wrong + ")", x.quits(wrong), BAD, n++);
+            refused("quits(" + wrong + ")", () -> x.quits(wrong), BAD);
         }
         due("quits(2)", x.quits(2), 1);
         due("keeps(2, 0)", x.keeps(2, 0), 1);
@@ -934,10 +961,9 @@ public final class PromisesTest {
         due("keeper(0, 0)", x.keeper(0, 0), NONE);
         due("keeper(0, 1)", x.keeper(0, 1), 0);
         due("keeper(0, 2)", x.keeper(0, 2), 0);
-        int n = 0;
         int[][] wrong = {{3, 0}, {-1, 0}, {LOW, 0}, {HIGH, 0}, {0, 3}, {0, -1}, {0, LOW}, {0, HIGH}};
         for (int[] w : wrong) {
-            refused("keeper(" + w[0] + ", " + w[1] + ")", x.keeper(w[0], w[1]), BAD, n++);
+            refused("keeper(" + w[0] + ", " + w[1] + ")", () -> x.keeper(w[0], w[1]), BAD);
         }
         due("STATES", x.told(4), 5);
     }
@@ -955,10 +981,9 @@ public final class PromisesTest {
         due("queue(0, 6)", x.queue(0, 6), NONE);
         due("queue(0, HIGH)", x.queue(0, HIGH), NONE);
         due("queue(1, 0)", x.queue(1, 0), NONE);
-        int n = 0;
         int[][] wrong = {{0, -1}, {0, LOW}, {3, 0}, {-1, 0}, {HIGH, 0}, {LOW, 0}};
         for (int[] w : wrong) {
-            refused("queue(" + w[0] + ", " + w[1] + ")", x.queue(w[0], w[1]), BAD, n++);
+            refused("queue(" + w[0] + ", " + w[1] + ")", () -> x.queue(w[0], w[1]), BAD);
         }
     }
 
@@ -1007,10 +1032,9 @@ public final class PromisesTest {
         for (int what = 0; what < 8; what++) {
             due("buffer(1, " + what + ")", x.buffer(1, what), want[what]);
         }
-        int n = 0;
         int[][] wrong = {{3, 0}, {-1, 0}, {LOW, 0}, {HIGH, 0}, {0, 8}, {0, -1}, {0, LOW}, {0, HIGH}};
         for (int[] w : wrong) {
-            refused("buffer(" + w[0] + ", " + w[1] + ")", x.buffer(w[0], w[1]), BAD, n++);
+            refused("buffer(" + w[0] + ", " + w[1] + ")", () -> x.buffer(w[0], w[1]), BAD);
         }
         due("STATES", x.told(4), 6);
     }
@@ -1024,10 +1048,9 @@ public final class PromisesTest {
         items(2, 9, 8, 7, 6, 5, 4);
         due("item(2, HIGH)", x.item(2, HIGH), NONE);
         due("item(0, 0)", x.item(0, 0), NONE);
-        int n = 0;
         int[][] wrong = {{2, -1}, {2, LOW}, {3, 0}, {-1, 0}, {HIGH, 0}, {LOW, 0}};
         for (int[] w : wrong) {
-            refused("item(" + w[0] + ", " + w[1] + ")", x.item(w[0], w[1]), BAD, n++);
+            refused("item(" + w[0] + ", " + w[1] + ")", () -> x.item(w[0], w[1]), BAD);
         }
     }
 
@@ -1052,10 +1075,9 @@ public final class PromisesTest {
         for (int what = 0; what < 7; what++) {
             due("of(0, " + what + ")", x.of(0, what), done[what]);
         }
-        int n = 0;
         int[][] wrong = {{2, 0}, {-1, 0}, {LOW, 0}, {HIGH, 0}, {0, 7}, {0, -1}, {0, LOW}, {0, HIGH}, {6, 0}};
         for (int[] w : wrong) {
-            refused("of(" + w[0] + ", " + w[1] + ")", x.of(w[0], w[1]), BAD, n++);
+            refused("of(" + w[0] + ", " + w[1] + ")", () -> x.of(w[0], w[1]), BAD);
         }
     }
 
@@ -1081,10 +1103,9 @@ public final class PromisesTest {
         }
         x.asks(3, 1, 1, 0);
         due("GOT, the last", x.worker(3, 4), 0);
-        int n = 0;
         int[][] wrong = {{6, 0}, {-1, 0}, {LOW, 0}, {HIGH, 0}, {0, 5}, {0, -1}, {0, LOW}, {0, HIGH}};
         for (int[] w : wrong) {
-            refused("worker(" + w[0] + ", " + w[1] + ")", x.worker(w[0], w[1]), BAD, n++);
+            refused("worker(" + w[0] + ", " + w[1] + ")", () -> x.worker(w[0], w[1]), BAD);
         }
     }
 
@@ -1095,8 +1116,8 @@ public final class PromisesTest {
         }
         lineIs(3, 0, 5, 1, 4, 2);
         due("line(HIGH)", x.line(HIGH), NONE);
-        refused("line(-1)", x.line(-1), BAD, 0);
-        refused("line(LOW)", x.line(LOW), BAD, 1);
+        refused("line(-1)", () -> x.line(-1), BAD);
+        refused("line(LOW)", () -> x.line(LOW), BAD);
         x.puts(0, 1);
         lineIs(0, 5, 1, 4, 2);
         x.asks(3, 0, 1, 0);
@@ -1119,9 +1140,8 @@ public final class PromisesTest {
         for (int what = 0; what < 10; what++) {
             due("works(" + what + ")", x.works(what), want[what]);
         }
-        int n = 0;
         for (int wrong : new int[] {10, -1, LOW, HIGH}) {
-            refused("works(" + wrong + ")", x.works(wrong), BAD, n++);
+            refused("works(" + wrong + ")", () -> x.works(wrong), BAD);
         }
     }
 
@@ -1129,15 +1149,14 @@ public final class PromisesTest {
         anew("24 type");
         due("type(0)", x.type(0), 1);
         due("type(127)", x.type(127), 2);
-        int n = 0;
         for (int wrong : new int[] {-1, 128, LOW, HIGH}) {
-            refused("type(" + wrong + ")", x.type(wrong), BAD, n++);
+            refused("type(" + wrong + ")", () -> x.type(wrong), BAD);
         }
         for (int i = 3; i <= 120; i++) {
             due("type(32)", x.type(32), i);
         }
-        refused("type(32)", x.type(32), FULL, 0);
-        refused("BAD is ahead of FULL", x.type(128), BAD, n);
+        refused("type(32)", () -> x.type(32), FULL);
+        refused("BAD is ahead of FULL", () -> x.type(128), BAD);
         due("bytes", x.told(3), 120);
         due("STATES", x.told(4), 0);
         due("does()", x.does(), -10);
@@ -1293,7 +1312,7 @@ public final class PromisesTest {
 
     private static void back() {
         anew("27 back");
-        refused("none", x.back(), NO, 0);
+        refused("none", () -> x.back(), NO);
         for (int k = 0; k < 5; k++) {
             x.puts(0, k);
             x.takes(0);
@@ -1303,7 +1322,7 @@ public final class PromisesTest {
             due("back()", x.back(), i);
             items(0, i % 2 == 1 ? new int[] {(i + 3) / 2} : new int[0]);
         }
-        refused("none", x.back(), NO, 1);
+        refused("none", () -> x.back(), NO);
         due("OUTS", x.buffer(0, 3), 2);
         due("puts", x.puts(0, 9), 1);
         due("STATES", x.told(4), 1);
@@ -1388,10 +1407,10 @@ public final class PromisesTest {
         for (int what = 0; what < 5; what++) {
             due("told(" + what + ")", x.told(what), want[what]);
         }
-        refused("told(5)", x.told(5), BAD, 3);
-        refused("told(-1)", x.told(-1), BAD, 4);
-        refused("told(LOW)", x.told(LOW), BAD, 5);
-        refused("told(HIGH)", x.told(HIGH), BAD, 6);
+        refused("told(5)", () -> x.told(5), BAD);
+        refused("told(-1)", () -> x.told(-1), BAD);
+        refused("told(LOW)", () -> x.told(LOW), BAD);
+        refused("told(HIGH)", () -> x.told(HIGH), BAD);
         due("puts that BLOCKS", x.takes(0), BLOCK);
         due("is no refusal", x.told(1), 2);
     }
