@@ -880,14 +880,14 @@ public final class GatedWorks {
         private int work(Station s) {
             s.workOn();
             int made = s.phase == DONE ? deliver(s) : 0;
-            if (s.phase == IDLE) {
+            if (s.phase == IDLE && hasBuffer(s.in0)) {
                 s.load(hasBuffer(s.in1) ? takePair(s.in0, s.in1) : buffers[s.in0].take(NONE));
             }
             return made;
         }
 
         private int deliver(Station s) {
-            if (!buffers[s.out].put(s.kind, NONE)) {
+            if (!hasBuffer(s.out) || !buffers[s.out].put(s.kind, NONE)) {
                 s.held++;
                 return 0;
             }
@@ -913,6 +913,9 @@ public final class GatedWorks {
 
         /** Whether the WISH of w could be done; he wishes no more then. */
         boolean tryWish(int w) {
+            if (!isWorker(w) || !hasBuffer(workers[w].place)) {
+                return false;
+            }
             Worker worker = workers[w];
             Buffer at = buffers[worker.place];
             if (worker.wish == WISH_PUT) {
@@ -974,7 +977,7 @@ public final class GatedWorks {
             int at = w;
             for (int step = 0; step < WORKERS; step++) {
                 int b = queuedAt(at);
-                if (b == NONE) {
+                if (!hasBuffer(b)) {
                     return false;
                 }
                 at = buffers[b].keptBy;
@@ -1170,7 +1173,7 @@ public final class GatedWorks {
             done = 0;
             cameTo = 0;
             enterLevel();
-            while (place < text.length) {
+            for (int step = 0; step < MOST_BYTES && place < text.length; step++) {
                 int c = nextByte();
                 if (c == '(') {
                     enterLevel();
@@ -1217,7 +1220,7 @@ public final class GatedWorks {
         /** To behind the ) of the GROUP that the place is in. */
         private void skipGroup() {
             int open = 1;
-            while (place < text.length && open > 0) {
+            for (int step = 0; step < MOST_BYTES && place < text.length && open > 0; step++) {
                 int c = nextByte();
                 if (c == '(') {
                     open++;
