@@ -6,7 +6,7 @@ public final class PromisesTest {
     private static final int LOW = Integer.MIN_VALUE, HIGH = Integer.MAX_VALUE;
 
     private static final Due DUE = new Due();
-    private static GatedWorks x;
+    private static Works x;
 
     public static void main(String[] args) {
         newObject();
@@ -60,7 +60,7 @@ public final class PromisesTest {
 
     private static void anew(String promise) {
         DUE.about(promise);
-        x = new GatedWorks();
+        x = new Works();
     }
 
     private static void due(String call, long got, long want) {
@@ -72,44 +72,12 @@ public final class PromisesTest {
         int which = want == BAD ? 0 : want == NO ? 1 : 2;
         int[] times = {x.told(0), x.told(1), x.told(2)};
         times[which]++;
-        String ahead = allThatIs();
+        long ahead = x.all();
         due(call, made.getAsInt(), want);
         for (int what = 0; what < 3; what++) {
             due("told(" + what + ") behind " + call, x.told(what), times[what]);
         }
-        DUE.holds(call + " changes nothing", allThatIs().equals(ahead));
-    }
-
-    /** All that can be told, but for how often refused. */
-    private static String allThatIs() {
-        StringBuilder all = new StringBuilder();
-        add(all, x.told(3), x.told(4), x.stuck());
-        for (int what = 0; what < 10; what++) {
-            add(all, x.works(what));
-        }
-        for (int b = 0; b < x.works(0); b++) {
-            for (int i = 0; i < 8; i++) {
-                add(all, x.buffer(b, i), x.item(b, i), x.queue(b, i), x.keeper(b, i % 3));
-            }
-        }
-        for (int s = 0; s < x.works(1); s++) {
-            for (int what = 0; what < 7; what++) {
-                add(all, x.of(s, what));
-            }
-        }
-        for (int w = 0; w < 6; w++) {
-            for (int what = 0; what < 5; what++) {
-                add(all, x.worker(w, what));
-            }
-            add(all, x.line(w));
-        }
-        return all.toString();
-    }
-
-    private static void add(StringBuilder all, int... told) {
-        for (int v : told) {
-            all.append(v).append(' ');
-        }
+        DUE.holds(call + " changes nothing", x.all() == ahead);
     }
 
     private static void bad(String call, int got) {
@@ -223,7 +191,7 @@ public final class PromisesTest {
         due("NO still counted", x.told(1), 1);
         due("THE TEXT stays", x.told(3), bytes);
         due("STATES stay", x.told(4), states);
-        GatedWorks fresh = new GatedWorks();
+        Works fresh = new Works();
         for (int what = 0; what < 10; what++) {
             due("works(" + what + ")", x.works(what), fresh.works(what));
         }
