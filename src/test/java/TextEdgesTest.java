@@ -247,7 +247,7 @@ public final class TextEdgesTest {
 
     private static void textFull() {
         SAYS.edge("26: 120 bytes of ORDERS: 30 MOVES", "doing '" + "m010".repeat(30) + "' = 30; gate 0 = 30 0 1; master = 1 0 1");
-        SAYS.edge("26: 120 bytes of GROUPS of none", "doing '" + "()".repeat(60) + "' = 0; master = 61 0 2");
+        SAYS.edge("26: 120 bytes of GROUPS of none", "doing '" + "()".repeat(60) + "' = 0; master = 61 0 2; does = 0; master = 122 0 2");
         SAYS.edge("26: 120 bytes of GROUPS undone", "doing '" + "(t9)".repeat(30) + "' = 0; master = 31 30 2");
         SAYS.edge("26: 120 bytes of TAKES that are undone", "doing '" + "(t9)".repeat(29) + "t9t9' = -1029; master = 30 30 2");
         SAYS.edge("26: 120 bytes, p and t by turns", "doing '" + "p01t0".repeat(24) + "' = 48; gate 0 = 48 0 1; buffer 0 4 = 1");

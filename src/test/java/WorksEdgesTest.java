@@ -18,6 +18,7 @@ public final class WorksEdgesTest {
         stationNumbers();
         stationFull();
         guardsWhich();
+        noServing();
         ticksHowMany();
         ticksTime();
         ticksKind();
@@ -255,6 +256,12 @@ public final class WorksEdgesTest {
             """);
         SAYS.edge("5: the most works have BUFFER 5", """
             begins 6 = 3; station 0 NONE 1 1 0 = 0; guards 0 5 = NONE; guards 0 6 = BAD; of 0 6 = 5
+            """);
+    }
+
+    private static void noServing() {
+        SAYS.edge("4 and 5: no GATE is entered, nothing is served", """
+            asks 0 2 1 0 = 0; gate 2 = 2 2 1; station 2 NONE 1 1 0 = 0; gate 2 = 2 2 1; guards 0 2 = NONE; gate 2 = 2 2 1; works 8 = 2
             """);
     }
 
