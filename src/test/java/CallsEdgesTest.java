@@ -8,6 +8,7 @@ public final class CallsEdgesTest {
         putsBlock();
         putsServe();
         putsPeak();
+        putsPeakThoughOutsAreMore();
         takesWhat();
         takesBlock();
         takesServe();
@@ -70,6 +71,17 @@ public final class CallsEdgesTest {
         SAYS.edge("7: PEAK, the most ITEMS it ever had, is told anew by a PUT alone", """
             puts 0 1 = 1; buffer 0 4 = 1; puts 0 2 = 2; buffer 0 4 = 2; takes 0 = 1; takes 0 = 2; buffer 0 4 = 2
             puts 0 3 = 1; buffer 0 4 = 2; rooms 0 6 = 2; buffer 0 4 = 2; puts 0 4 = 2; buffer 0 4 = 2; puts 0 5 = 3; buffer 0 4 = 3
+            """);
+    }
+
+    /** OUTS are counted, too, when an ITEM is the first again or all is undone: INS less OUTS are not what it has. */
+    private static void putsPeakThoughOutsAreMore() {
+        SAYS.edge("7: PEAK: the most ITEMS it ever had, behind a MOVE that ended early", """
+            puts 0 1 = 1; keeps 0 1 = 1; moves 0 1 1 0 = -100; buffer 0 3 = 1; buffer 0 4 = 1; puts 0 2 = 2; buffer 0 4 = 2
+            lets 0 1 = 0; moves 0 1 3 1 = -100; items 0 = 1 2; buffer 0 3 = 3; rooms 0 3 = 2; puts 0 3 = 3; buffer 0 4 = 3; buffer 1 4 = 2
+            """);
+        SAYS.edge("7: PEAK: the most ITEMS it ever had, behind a GROUP that was undone", """
+            doing 'p01(t0t0)' = 1; puts 0 2 = 2; buffer 0 4 = 2; doing '(t0t0p13p14t9)' = 0; puts 1 5 = 1; buffer 1 4 = 2
             """);
     }
 

@@ -13,6 +13,7 @@ import java.util.List;
  * types 'p0 1'          THE TEXT becomes that
  * doing 'p0 1' = answer the same, then does(); where a FAULT is due, nothing at all may change
  * same / differs        all that can be told is (is not) what it was at the last 'mark'
+ * digest = v v ..       the digest of these numbers
  */
 final class Script {
     static final int NONE = -1, BAD = -2, NO = -3, FULL = -4, BLOCK = -5;
@@ -56,6 +57,7 @@ final class Script {
             case "gate": three(step, want, "buffer", numbers[0], 5); break;
             case "master": three(step, want, "works", NONE, 4); break;
             case "mark": marked = x.all(); break;
+            case "digest": due.is(step, x.digest(), digestOf(want)); break;
             case "same": due.holds(step, x.all() == marked); break;
             case "differs": due.holds(step, x.all() != marked); break;
             default: call(step, name, numbers, want); break;
@@ -119,6 +121,14 @@ final class Script {
             int told = of == NONE ? x.call(call, from + i) : x.call(call, of, from + i);
             due.is(step + ", " + names[i], told, want[i]);
         }
+    }
+
+    private static long digestOf(int[] numbers) {
+        long h = 1932;
+        for (int v : numbers) {
+            h = 31 * h + v;
+        }
+        return h;
     }
 
     private static List<String> words(String side) {

@@ -22,21 +22,12 @@ public final class StatesTest {
         DUE.end();
     }
 
-    private static int done(Works x, String call) {
-        String[] words = call.split(" ");
-        int[] numbers = new int[words.length - 1];
-        for (int i = 0; i < numbers.length; i++) {
-            numbers[i] = Integer.parseInt(words[i + 1]);
-        }
-        return x.call(words[0], numbers);
-    }
-
     private static void oneCall(String call) {
         DUE.about(call + ", gone back");
         Works x = Twins.withStates(5);
         long was = x.all();
-        done(x, call);
-        DUE.is("it is not refused", x.told(0) + x.told(1) + x.told(2), 0);
+        x.called(call);
+        DUE.is("it is not refused", x.told(0) + x.told(1) + x.told(2), Twins.REFUSED);
         DUE.holds("it changes something", x.all() != was);
         DUE.is("STATES", x.told(4), 6);
         DUE.is("back()", x.back(), 5);
@@ -47,9 +38,9 @@ public final class StatesTest {
     private static void twoCalls(String first, String second) {
         DUE.about(first + ", " + second + ", gone back");
         Works x = Twins.withStates(4);
-        done(x, first);
-        done(x, second);
-        int refused = x.told(0) + x.told(1) + x.told(2);
+        x.called(first);
+        x.called(second);
+        int refused = x.told(0) + x.told(1) + x.told(2) - Twins.REFUSED;
         DUE.is("STATES", x.told(4), 6 - refused);
         for (int i = refused; i < 2; i++) {
             x.back();
@@ -63,7 +54,7 @@ public final class StatesTest {
             DUE.about(call + ", six STATES ahead of it");
             Works x = Twins.busy();
             Works twin = Twins.busy();
-            done(x, call);
+            x.called(call);
             DUE.is("STATES", x.told(4), 6);
             DUE.is("back()", x.back(), 5);
             for (int i = 4; i >= 0; i--) {

@@ -6,6 +6,9 @@ public final class ToldEdgesTest {
     public static void main(String[] args) {
         bufferTold();
         bufferDeepest();
+        depthBehindCalls();
+        depthBehindTicks();
+        depthBehindTexts();
         itemTold();
         ofTold();
         ofWhats();
@@ -38,6 +41,71 @@ public final class ToldEdgesTest {
         SAYS.edge("18: ENTRIES, THROWN and DEEPEST belong to each BUFFER by itself", """
             takes 0 = BLOCK; puts 1 1 = 1; gate 0 = 1 1 1; gate 1 = 1 0 1; gate 2 = 0 0 0; master = 0 0 0
             """);
+    }
+
+    /** If a call left a GATE too often or too seldom, the deepest that can be, tried behind it, would not be 3, of the MASTER GATE 5. */
+    private static void depthIsNone(String calls, int stations) {
+        SAYS.edge("18: DEPTH: a GATE is left as often as it is entered: " + calls, calls + ";" + deepest(stations));
+    }
+
+    private static String deepest(int stations) {
+        String steps = "";
+        for (int b = 0; b < 3; b++) {
+            int s = stations + b;
+            steps += "station " + b + " " + b + " 0 9 0 = " + s + "; guards " + s + " " + b + " = NONE;";
+        }
+        return steps + "ticks 1; buffer 0 7 = 3; buffer 1 7 = 3; buffer 2 7 = 3; doing '(((())))' = 0; works 6 = 5";
+    }
+
+    private static void depthBehindCalls() {
+        depthIsNone("puts 0 1 = 1", 0);
+        depthIsNone("puts 0 1 = 1; puts 0 2 = 2; puts 0 3 = BLOCK", 0);
+        depthIsNone("puts 0 1 = 1; takes 0 = 1", 0);
+        depthIsNone("takes 0 = BLOCK", 0);
+        depthIsNone("puts 0 1 = 1; moves 0 1 1 0 = 1", 0);
+        depthIsNone("puts 2 1 = 1; moves 2 1 1 1 = 1", 0);
+        depthIsNone("moves 0 1 1 0 = -100", 0);
+        depthIsNone("moves 2 1 1 1 = -100", 0);
+        depthIsNone("puts 0 1 = 1; keeps 0 1 = 1; moves 0 1 1 0 = -100", 0);
+        depthIsNone("puts 2 1 = 1; keeps 0 1 = 1; moves 2 1 1 1 = -100", 0);
+        depthIsNone("asks 0 0 0 1 = 1; asks 0 0 1 0 = 1", 0);
+        depthIsNone("asks 0 0 1 0 = 0; asks 1 1 1 0 = 0; puts 0 1 = 1", 0);
+        depthIsNone("keeps 0 0 = 1", 0);
+        depthIsNone("keeps 0 0 = 1; keeps 1 0 = BLOCK", 0);
+        depthIsNone("keeps 0 0 = 1; lets 0 0 = 0", 0);
+        depthIsNone("keeps 0 0 = 1; keeps 0 0 = 2; lets 0 0 = 1", 0);
+        depthIsNone("keeps 0 0 = 1; keeps 1 0 = BLOCK; lets 0 0 = 0", 0);
+        depthIsNone("keeps 0 0 = 1; keeps 1 0 = BLOCK; quits 1 = 0", 0);
+        depthIsNone("keeps 0 2 = 1; asks 1 2 1 0 = 0; cancels 1 = 0; rooms 0 6 = 2; begins 3 = 3", 0);
+        depthIsNone("keeps 0 0 = 1; asks 1 0 1 0 = 0; cancels 1 = 0", 0);
+        depthIsNone("""
+            keeper 0 0 = NONE; queue 0 0 = NONE; stuck = 0; buffer 0 0 = 0; item 0 0 = NONE; worker 0 0 = 0; line 0 = NONE; works 0 = 3; told 0 = 0
+            station 0 NONE 1 1 0 = 0; guards 0 1 = NONE; of 0 0 = 0
+            """, 1);
+    }
+
+    private static void depthBehindTicks() {
+        depthIsNone("station 0 NONE 1 1 0 = 0; ticks 1 = 0", 1);
+        depthIsNone("station 0 NONE 1 1 0 = 0; guards 0 2 = NONE; ticks 1 = 0", 1);
+        depthIsNone("station 0 NONE 1 1 0 = 0; puts 0 1 = 1; ticks 2 = 1", 1);
+        depthIsNone("station 0 NONE 1 1 0 = 0; guards 0 2 = NONE; puts 0 1 = 1; ticks 2 = 1", 1);
+        depthIsNone("station 0 NONE 1 1 0 = 0; guards 0 1 = NONE; puts 0 1 = 1; keeps 0 1 = 1; ticks 3 = 0", 1);
+        depthIsNone("station 0 1 2 1 0 = 0; ticks 1 = 0", 1);
+        depthIsNone("station 1 0 2 1 0 = 0; puts 0 1 = 1; puts 1 1 = 1; ticks 2 = 1", 1);
+        depthIsNone("station 0 0 2 1 0 = 0; puts 0 1 = 1; puts 0 1 = 2; ticks 1 = 0", 1);
+        depthIsNone("station 0 0 2 1 0 = 0; ticks 1 = 0", 1);
+    }
+
+    private static void depthBehindTexts() {
+        depthIsNone("doing 'p01t0' = 2", 0);
+        depthIsNone("doing 't9' = -1000", 0);
+        depthIsNone("doing 'p01m011m120' = 3", 0);
+        depthIsNone("doing 'm011' = -1000", 0);
+        depthIsNone("doing '(p01)((t1))()' = 1", 0);
+        depthIsNone("doing '((p01)t9)(t9(()))' = 0", 0);
+        depthIsNone("doing '((p01)t9)t9(p02)' = -1002", 0);
+        depthIsNone("doing '((p01)' = -16", 0);
+        depthIsNone("doing '((t9))t9' = -1001; back = 0", 0);
     }
 
     private static void itemTold() {

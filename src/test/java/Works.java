@@ -139,6 +139,16 @@ final class Works {
         }
     }
 
+    /** The call that is written so: its name and its numbers, with blanks between. */
+    int called(String written) {
+        String[] words = written.split(" ");
+        int[] numbers = new int[words.length - 1];
+        for (int i = 0; i < numbers.length; i++) {
+            numbers[i] = Integer.parseInt(words[i + 1]);
+        }
+        return call(words[0], numbers);
+    }
+
     private static Method methodOf(String name) {
         for (Method m : Works.class.getDeclaredMethods()) {
             if (m.getName().equals(name) && m.getReturnType() == int.class && !m.isVarArgs()) {
