@@ -28,6 +28,7 @@ public final class RulesTest {
 
     public static void main(String[] args) throws Exception {
         face();
+        sizes();
         words();
         room();
         DUE.end();
@@ -65,6 +66,27 @@ public final class RulesTest {
         for (Class<?> inside : c.getDeclaredClasses()) {
             DUE.holds(inside + " is private and static",
                 Modifier.isPrivate(inside.getModifiers()) && Modifier.isStatic(inside.getModifiers()));
+        }
+    }
+
+    private static void sizes() {
+        DUE.about("sizes");
+        sizesOf(GatedWorks.class);
+        for (Class<?> inside : GatedWorks.class.getDeclaredClasses()) {
+            sizesOf(inside);
+        }
+    }
+
+    private static void sizesOf(Class<?> c) {
+        int fields = 0;
+        for (Field f : c.getDeclaredFields()) {
+            boolean lasting = Modifier.isStatic(f.getModifiers());
+            fields += lasting ? 0 : 1;
+            DUE.holds(f + " is final, if static", !lasting || Modifier.isFinal(f.getModifiers()));
+        }
+        DUE.holds(c + " has at most twenty fields", fields <= 20);
+        for (Method m : c.getDeclaredMethods()) {
+            DUE.holds(m + " takes at most seven parameters", m.getParameterCount() <= 7);
         }
     }
 
